@@ -65,6 +65,8 @@ final class DatingTest {
         Check.due("35 left", x.unclaim(0, 0, 1), 1);
         Check.thrown("35 again", Check.MISSING, () -> x.unclaim(0, 0, 1));
         Check.due("35 none left", x.unclaim(0, 1, 1), 0);
+        x.claim(0, 0, 20);
+        Check.due("35 the last state", x.unclaim(0, 0, 20), 0);
         x.claim(0, 0, 1);
         x.claim(1, 0, 0);
         x.date(0, 1500);
@@ -287,8 +289,9 @@ final class DatingTest {
     }
 
     private static void isSound() {
-        Watermarkmill x = withDocuments(2);
-        x.make(0, false, 1490, 5);
+        Watermarkmill x = withDocuments(3);
+        Check.due("46 sound ahead of all", x.isSound(), true);
+        x.make(0, false, 1500, 5);
         x.ream(0);
         x.put(0, 0, 4);
         x.use(0, 0, 3);
@@ -297,8 +300,9 @@ final class DatingTest {
         x.claim(0, 0, 0);
         x.claim(1, 0, 1);
         x.date(0, 1512);
+        Check.due("46 sound with one date", x.isSound(), true);
         x.date(1, 1500);
-        Check.due("46 sound", x.isSound(), true);
+        Check.due("46 sound with two", x.isSound(), true);
         x.date(0, 1513);
         Check.due("46 sound though nothing fits", x.isSound(), true);
     }

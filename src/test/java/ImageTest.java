@@ -159,6 +159,12 @@ final class ImageTest {
         Check.due("29 all over the last one", x.groups(), 1);
         x.setTolerance(2);
         Check.due("29 by the tolerance of now", x.groups(), 4);
+        Watermarkmill y = withSheets();
+        y.setTolerance(1);
+        for (int error : new int[] {0, 10, 1, 11, 5, 20, 2, 12, 3, -9}) {
+            y.image(0, 0, error, 0);
+        }
+        Check.due("29 0 to 3, 10 to 12, 5, 20, -9", y.groups(), 5);
     }
 
     private static void merge() {
@@ -195,6 +201,11 @@ final class ImageTest {
         Check.due("31 last", x.unmerge(), 0);
         Check.due("31 all apart", x.clashes(), 0);
         Check.thrown("31 no more", Check.MISSING, x::unmerge);
+        Watermarkmill y = new Watermarkmill();
+        for (int i = 0; i < 511; i++) {
+            y.merge(0, i % 7, 1, i % 11);
+        }
+        Check.due("31 as many as there are calls", y.unmerge(), 510);
     }
 
     private static void entry() {
