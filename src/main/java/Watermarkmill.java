@@ -272,7 +272,7 @@ public final class Watermarkmill {
         checkSheet(looked, sheet);
         int pairs = 0;
         // Each pair is met once, at its first leaf; the only leaf of an unfolded sheet is in none.
-        for (int leaf = 1; leaf < looked.mateOf(leaf); leaf++) {
+        for (int leaf = 1; leaf <= looked.leaves / 2; leaf++) {
             if (stockOfLeaf(looked, sheet, leaf) != stockOfLeaf(looked, sheet, looked.mateOf(leaf))) {
                 pairs++;
             }

@@ -36,8 +36,14 @@ final class Check {
         try {
             return call.answer();
         } catch (RuntimeException e) {
-            return e.getClass().getName();
+            return e.getClass().getName() + (isThrownByTheClass(e) ? "" : ", but by the machine or the library");
         }
+    }
+
+    /** A list that is asked for what it does not hold throws the right class, but not by a throw of ours. */
+    static boolean isThrownByTheClass(Throwable e) {
+        StackTraceElement[] trace = e.getStackTrace();
+        return trace.length > 0 && trace[0].getClassName().equals("Watermarkmill");
     }
 
     static void end() {
